@@ -98,6 +98,13 @@ public final class BranchesTest {
         CHECK.due("branches() of 39996", one.branches(), 39996 - beyond(101, 4, 99));
         one.joint(ArmRoom.SLIDE, 0, 0, 1);
         CHECK.refused("branches() of 79992", STATE, one::branches);
+        // The least number past 40000 that joints can come to.
+        ArmRoom past = new ArmRoom();
+        past.joint(ArmRoom.SLIDE, 0, 0, 80);
+        past.joint(ArmRoom.SLIDE, 0, 0, 25);
+        past.joint(ArmRoom.SLIDE, 0, 0, 18);
+        CHECK.refused("branches() of 40014", STATE, past::branches);
+        CHECK.refused("branch(0, 0, 0) of 40014", STATE, () -> past.branch(0, 0, 0));
         ArmRoom most = new ArmRoom();
         for (int joint = 0; joint < 5; joint++) {
             most.joint(ArmRoom.SLIDE, 0, 0, 100);

@@ -228,6 +228,10 @@ public final class PosesTest {
         CHECK.due("freedom() without its sign", room.freedom(), 1000 * 500);
         room.set(2, 16);
         CHECK.due("freedom() with its sign", room.freedom(), 1000 * 500);
+        ArmRoom two = new ArmRoom();
+        two.joint(ArmRoom.TURN, 100, -32, 32);
+        two.joint(ArmRoom.SLIDE, 20, 0, 30);
+        CHECK.due("freedom() of two", two.freedom(), 1000 * 120 * 98);
         pastInts();
     }
 
