@@ -83,7 +83,7 @@ public final class BranchesTest {
         room.joint(ArmRoom.SLIDE, 0, 0, 15);
         int within = 50 * 50 * 11;
         for (int distance = 11; distance <= 15; distance++) {
-            within += directionsWithin(room, distance);
+            within += directionsWithin(distance);
         }
         CHECK.due("branches() of 40000", room.branches(), within);
         room.joint(ArmRoom.SLIDE, 0, 3, 3);
@@ -127,23 +127,16 @@ public final class BranchesTest {
     }
 
     /** How many of the 50 times 50 headings lead a distance of that many to x and y within 10000. */
-    private static int directionsWithin(ArmRoom room, int distance) {
+    private static int directionsWithin(int distance) {
         int within = 0;
-        int turned = room.value(0);
-        int slid = room.value(2);
-        int other = room.value(1);
-        room.set(2, distance);
         for (int one = -24; one <= 25; one++) {
             for (int two = -24; two <= 25; two++) {
-                room.set(0, one);
-                room.set(1, two);
-                boolean near = Math.abs(room.tip(0)) <= 10000 && Math.abs(room.tip(1)) <= 10000;
-                within += near ? 1 : 0;
+                double angle = Math.PI * (one + two) / 32;
+                long x = distance * Math.round(1000 * Math.cos(angle));
+                long y = distance * Math.round(1000 * Math.sin(angle));
+                within += Math.abs(x) <= 10000 && Math.abs(y) <= 10000 ? 1 : 0;
             }
         }
-        room.set(0, turned);
-        room.set(1, other);
-        room.set(2, slid);
         return within;
     }
 

@@ -4,6 +4,14 @@ final class Check {
         long answer();
     }
 
+    interface Build {
+        ArmRoom room();
+    }
+
+    interface Use {
+        long on(ArmRoom room);
+    }
+
     private int right = 0;
     private int wrong = 0;
     private String promise = "";
@@ -18,6 +26,13 @@ final class Check {
 
     void refused(String call, Class<? extends RuntimeException> want, Call made) {
         tell(call, outcome(made), "throws." + want.getSimpleName());
+    }
+
+    /** Afterwards the room must answer as one of the same build on which the call was never made. */
+    void refusedUnchanged(String call, Class<? extends RuntimeException> want, Build build, Use use) {
+        ArmRoom room = build.room();
+        refused(call, want, () -> use.on(room));
+        tell(call + ", what stands behind it", Sight.usingUp(room), Sight.usingUp(build.room()));
     }
 
     void tell(String call, String got, String want) {
