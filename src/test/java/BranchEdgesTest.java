@@ -35,23 +35,6 @@ public final class BranchEdgesTest {
         CHECK.end("BranchEdgesTest");
     }
 
-    private static ArmRoom arm(int[]... joints) {
-        ArmRoom room = new ArmRoom();
-        for (int[] joint : joints) {
-            room.joint(joint[0], joint[1], joint[2], joint[3]);
-        }
-        return room;
-    }
-
-    /** Slides without lengths, each with so many values from 0 on: the tip is at their sum. */
-    private static ArmRoom slides(int... counts) {
-        ArmRoom room = new ArmRoom();
-        for (int count : counts) {
-            room.joint(SLIDE, 0, 0, count - 1);
-        }
-        return room;
-    }
-
     /** The values that a joint has in the first branches. */
     private static void ranked(String name, ArmRoom room, int by, int joint, int... due) {
         for (int rank = 0; rank < due.length; rank++) {
@@ -62,7 +45,7 @@ public final class BranchEdgesTest {
 
     private static void slackRange() {
         CHECK.promise("13: slack, 0 to 100000; returns the one before");
-        ArmRoom room = slides(101);
+        ArmRoom room = Arms.slides(101);
         CHECK.due("slack(0)", room.slack(0), 10000);
         CHECK.due("branches() by 0", room.branches(), 1);
         CHECK.refused("slack(-1)", ARGUMENT, () -> room.slack(-1));
@@ -87,7 +70,7 @@ public final class BranchEdgesTest {
             {500, 501, 0}, {500, -501, 0}, {-500, 501, 0}, {-500, -501, 0}
         };
         for (int heading = -32; heading <= 32; heading += 8) {
-            ArmRoom room = arm(new int[] {TURN, 100, heading, heading}, new int[] {SLIDE, 0, 0, 0});
+            ArmRoom room = Arms.of(new int[] {TURN, 100, heading, heading}, new int[] {SLIDE, 0, 0, 0});
             room.slack(500);
             for (int[] row : rows) {
                 room.goal(room.tip(0) + row[0], room.tip(1) + row[1]);
@@ -99,7 +82,7 @@ public final class BranchEdgesTest {
 
     private static void slackOfNothing() {
         CHECK.promise("14: with a slack of 0, at the goal itself");
-        ArmRoom room = arm(new int[] {TURN, 100, -32, 32}, new int[] {TURN, 100, -32, 32});
+        ArmRoom room = Arms.of(new int[] {TURN, 100, -32, 32}, new int[] {TURN, 100, -32, 32});
         room.slack(0);
         CHECK.due("branches() folded", room.branches(), 65 * 2);
         room.goal(200000, 0);
@@ -115,7 +98,7 @@ public final class BranchEdgesTest {
     private static void slackFarOut() {
         CHECK.promise("14: at the end of the longest arms");
         int[] slide = {SLIDE, 200, 0, 0};
-        ArmRoom room = arm(slide, slide, slide, slide, slide);
+        ArmRoom room = Arms.of(slide, slide, slide, slide, slide);
         room.slack(0);
         room.goal(1000000, 0);
         CHECK.due("branches() at it", room.branches(), 1);
@@ -125,7 +108,7 @@ public final class BranchEdgesTest {
         room.goal(899999, 0);
         CHECK.due("branches() past the slack", room.branches(), 0);
         int[] longer = {SLIDE, 200, 0, 100};
-        ArmRoom back = arm(new int[] {TURN, 200, -32, 32}, longer, new int[] {SLIDE, 200, 100, 100});
+        ArmRoom back = Arms.of(new int[] {TURN, 200, -32, 32}, longer, new int[] {SLIDE, 200, 100, 100});
         back.goal(-800000, 0);
         back.slack(0);
         CHECK.due("branches() at the last value", back.branches(), 2);
@@ -147,13 +130,13 @@ public final class BranchEdgesTest {
 
     private static void branchesWithinTheLimits() {
         CHECK.promise("14: all poses are those with all values within the limits");
-        ArmRoom turn = arm(new int[] {TURN, 0, -32, 32});
+        ArmRoom turn = Arms.of(new int[] {TURN, 0, -32, 32});
         CHECK.due("branches() of the widest turn", turn.branches(), 65);
-        ArmRoom slide = arm(new int[] {SLIDE, 0, 0, 100});
+        ArmRoom slide = Arms.of(new int[] {SLIDE, 0, 0, 100});
         slide.goal(50000, 0);
         slide.slack(100000);
         CHECK.due("branches() of the widest slide", slide.branches(), 101);
-        ArmRoom some = arm(new int[] {TURN, 0, -5, -3}, new int[] {SLIDE, 0, 7, 10}, new int[] {TURN, 0, 4, 4});
+        ArmRoom some = Arms.of(new int[] {TURN, 0, -5, -3}, new int[] {SLIDE, 0, 7, 10}, new int[] {TURN, 0, 4, 4});
         CHECK.due("branches() of three", some.branches(), 12);
         ranked("of three", some, ArmRoom.HEADING, 0, -3, -3, -3, -3, -4, -4, -4, -4, -5, -5);
         ranked("of three", some, ArmRoom.HEADING, 1, 7, 8, 9, 10, 7, 8, 9, 10, 7, 8);
@@ -165,7 +148,7 @@ public final class BranchEdgesTest {
 
     private static void branchesOfFive() {
         CHECK.promise("14: of five joints");
-        ArmRoom room = slides(2, 2, 2, 2, 2);
+        ArmRoom room = Arms.slides(2, 2, 2, 2, 2);
         CHECK.due("branches() of 32", room.branches(), 32);
         room.slack(0);
         int[] sums = {1, 5, 10, 10, 5, 1};
@@ -190,7 +173,7 @@ public final class BranchEdgesTest {
 
     private static void branchesUpTo40000() {
         CHECK.promise("14: they can be gone through, if there are at most 40000");
-        ArmRoom room = slides(100, 100, 4);
+        ArmRoom room = Arms.slides(100, 100, 4);
         room.slack(0);
         CHECK.due("branches() of 40000", room.branches(), 1);
         room.slack(100000);
@@ -206,14 +189,15 @@ public final class BranchEdgesTest {
         CHECK.refused("take(1, 0) of 40000", INDEX, () -> room.take(1, 0));
         CHECK.due("take(0, 0) of 40000", room.take(0, 0), 0);
         CHECK.due("value(1)", room.value(1), 99);
-        ArmRoom five = slides(8, 10, 10, 10, 5);
+        ArmRoom five = Arms.slides(8, 10, 10, 10, 5);
         five.slack(100000);
         CHECK.due("branches() of 40000 by five", five.branches(), 40000);
         five.slack(0);
         five.goal(7000 + 9000 + 9000 + 9000 + 4000, 0);
         CHECK.due("branches() at the last by five", five.branches(), 1);
         ranked("at the last by five", five, ArmRoom.FAR, 4, 4);
-        ArmRoom turns = arm(new int[] {TURN, 0, -24, 25}, new int[] {TURN, 0, -24, 25}, new int[] {SLIDE, 0, 0, 15});
+        int[] turn = {TURN, 0, -24, 25};
+        ArmRoom turns = Arms.of(turn, turn, new int[] {SLIDE, 0, 0, 15});
         turns.slack(16000);
         CHECK.due("branches() of 40000 by turns", turns.branches(), 40000);
     }
@@ -223,7 +207,7 @@ public final class BranchEdgesTest {
         // 40014 is the least number past 40000 that joints can come to.
         int[][] counts = {{81, 26, 19}, {65, 65, 10}, {100, 100, 4, 2}, {8, 10, 10, 10, 6}, {101, 101, 101, 101, 101}};
         for (int[] row : counts) {
-            ArmRoom room = slides(row);
+            ArmRoom room = Arms.slides(row);
             CHECK.refused("branches()", STATE, room::branches);
             room.slack(0);
             CHECK.refused("branches() by a slack of 0", STATE, room::branches);
@@ -231,17 +215,17 @@ public final class BranchEdgesTest {
             CHECK.refused("branches() where there is none", STATE, room::branches);
         }
         CHECK.due("poses that as an int are below 0", Integer.signum(80 * 80 * 80 * 80 * 84), -1);
-        CHECK.refused("branches() of those", STATE, () -> slides(80, 80, 80, 80, 84).branches());
+        CHECK.refused("branches() of those", STATE, () -> Arms.slides(80, 80, 80, 80, 84).branches());
         CHECK.due("poses that as an int are few", 63 * 83 * 92 * 93 * 96, 7808);
-        CHECK.refused("branches() of those", STATE, () -> slides(63, 83, 92, 93, 96).branches());
-        CHECK.refused("branch(0, 0, 0) of those", STATE, () -> slides(63, 83, 92, 93, 96).branch(0, 0, 0));
-        CHECK.refused("take(0, 0) of those", STATE, () -> slides(63, 83, 92, 93, 96).take(0, 0));
+        CHECK.refused("branches() of those", STATE, () -> Arms.slides(63, 83, 92, 93, 96).branches());
+        CHECK.refused("branch(0, 0, 0) of those", STATE, () -> Arms.slides(63, 83, 92, 93, 96).branch(0, 0, 0));
+        CHECK.refused("take(0, 0) of those", STATE, () -> Arms.slides(63, 83, 92, 93, 96).take(0, 0));
     }
 
     private static void rankAndBranches() {
         CHECK.promise("15 and 16: rank, 0 to 9; IndexOutOfBoundsException if there is no such branch");
         for (int many = 9; many <= 11; many++) {
-            ArmRoom room = slides(101);
+            ArmRoom room = Arms.slides(101);
             room.slack((many - 1) * 1000);
             CHECK.due("branches()", room.branches(), many);
             for (int by = 0; by <= 2; by++) {
@@ -269,7 +253,7 @@ public final class BranchEdgesTest {
 
     private static void rankOfNone() {
         CHECK.promise("15 and 16: where there is no branch, or one alone");
-        ArmRoom room = slides(11);
+        ArmRoom room = Arms.slides(11);
         room.goal(-500000, 0);
         for (int rank = 0; rank <= 9; rank++) {
             int known = rank;
@@ -296,7 +280,7 @@ public final class BranchEdgesTest {
 
     private static void byRange() {
         CHECK.promise("15 and 16: by, FAR to HEADING; no such branch goes ahead of it");
-        ArmRoom room = slides(3);
+        ArmRoom room = Arms.slides(3);
         room.slack(1000);
         int[] wrong = {-1, 3, LEAST, MOST};
         for (int by : wrong) {
@@ -334,7 +318,7 @@ public final class BranchEdgesTest {
             CHECK.refused("branch(0, 3, " + joint + ")", INDEX, () -> room.branch(0, 3, joint));
             CHECK.refused("branch(10, 0, " + joint + ")", INDEX, () -> room.branch(10, 0, joint));
         }
-        ArmRoom many = slides(81, 26, 19);
+        ArmRoom many = Arms.slides(81, 26, 19);
         CHECK.refused("branch(0, 0, 3) of many", INDEX, () -> many.branch(0, 0, 3));
         CHECK.refused("branch(0, 0, -1) of many", INDEX, () -> many.branch(0, 0, -1));
         CHECK.refused("branch(0, 3, 3) of many", INDEX, () -> many.branch(0, 3, 3));
@@ -342,7 +326,7 @@ public final class BranchEdgesTest {
 
     private static void byFar() {
         CHECK.promise("15: by FAR, how far they are from the goal, the least first");
-        ArmRoom room = slides(101);
+        ArmRoom room = Arms.slides(101);
         room.goal(50400, 0);
         room.set(0, 100);
         ranked("ahead of 50.4", room, ArmRoom.FAR, 0, 50, 51, 49, 52, 48, 53, 47, 54, 46, 55);
@@ -350,7 +334,7 @@ public final class BranchEdgesTest {
         ranked("at 50.5", room, ArmRoom.FAR, 0, 50, 51, 49, 52, 48, 53, 47, 54, 46, 55);
         room.goal(50501, 0);
         ranked("behind 50.5", room, ArmRoom.FAR, 0, 51, 50, 52, 49, 53, 48, 54, 47, 55, 46);
-        ArmRoom turn = arm(new int[] {TURN, 100, -32, 32});
+        ArmRoom turn = Arms.of(new int[] {TURN, 100, -32, 32});
         turn.slack(100000);
         turn.goal(0, -100000);
         ranked("below", turn, ArmRoom.FAR, 0, -16, -17, -15, -18, -14, -19, -13, -20, -12, -21);
@@ -358,7 +342,7 @@ public final class BranchEdgesTest {
 
     private static void byWay() {
         CHECK.promise("15: by WAY, how far their values are from those of now, added up");
-        ArmRoom turn = arm(new int[] {TURN, 0, -32, 32});
+        ArmRoom turn = Arms.of(new int[] {TURN, 0, -32, 32});
         turn.set(0, 32);
         // The values of a turn, so that -32 is 64 from 32 though the direction is the same.
         ranked("from 32", turn, ArmRoom.WAY, 0, 32, 31, 30, 29, 28, 27, 26, 25, 24, 23);
@@ -366,13 +350,13 @@ public final class BranchEdgesTest {
         ranked("from -32", turn, ArmRoom.WAY, 0, -32, -31, -30, -29, -28, -27, -26, -25, -24, -23);
         turn.set(0, -1);
         ranked("from -1", turn, ArmRoom.WAY, 0, -1, -2, 0, -3, 1, -4, 2, -5, 3, -6);
-        ArmRoom two = arm(new int[] {TURN, 0, -1, 1}, new int[] {SLIDE, 0, 0, 2});
+        ArmRoom two = Arms.of(new int[] {TURN, 0, -1, 1}, new int[] {SLIDE, 0, 0, 2});
         two.set(0, 1);
         two.set(1, 1);
         CHECK.due("branches() of two", two.branches(), 9);
         ranked("of two", two, ArmRoom.WAY, 0, 1, 0, 1, 1, -1, 0, 0, -1, -1);
         ranked("of two", two, ArmRoom.WAY, 1, 1, 1, 0, 2, 1, 0, 2, 0, 2);
-        ArmRoom five = slides(2, 2, 2, 2, 2);
+        ArmRoom five = Arms.slides(2, 2, 2, 2, 2);
         for (int joint = 0; joint < 5; joint++) {
             five.set(joint, 1);
         }
@@ -383,7 +367,7 @@ public final class BranchEdgesTest {
 
     private static void byHeading() {
         CHECK.promise("15: by HEADING, how many parts their heading is from that of now");
-        ArmRoom room = arm(new int[] {TURN, 0, -32, 32});
+        ArmRoom room = Arms.of(new int[] {TURN, 0, -32, 32});
         room.set(0, -1);
         ranked("from 63", room, ArmRoom.HEADING, 0, -1, -2, 0, -3, 1, -4, 2, -5, 3, -6);
         room.set(0, 0);
@@ -400,14 +384,14 @@ public final class BranchEdgesTest {
         }
         five.set(4, 5);
         ranked("of five", five, ArmRoom.HEADING, 4, 5, 4, 6, 3, 7, 2, 8, 1, 9, 0);
-        ArmRoom behind = arm(new int[] {TURN, 0, -32, 32}, new int[] {SLIDE, 0, 0, 0});
+        ArmRoom behind = Arms.of(new int[] {TURN, 0, -32, 32}, new int[] {SLIDE, 0, 0, 0});
         behind.set(0, -32);
         ranked("with a slide behind", behind, ArmRoom.HEADING, 0, -32, 32, -31, 31);
     }
 
     private static void headingTheShorterWay() {
         CHECK.promise("15: by HEADING, the shorter way round");
-        ArmRoom room = arm(new int[] {TURN, 100, -32, 32});
+        ArmRoom room = Arms.of(new int[] {TURN, 100, -32, 32});
         room.goal(-100000, 0);
         room.slack(20000);
         CHECK.due("branches() about 32", room.branches(), 6);
@@ -423,7 +407,7 @@ public final class BranchEdgesTest {
 
     private static void byTheirValues() {
         CHECK.promise("15: of the same by their values, the joint 0 first, the lesser ahead");
-        ArmRoom five = slides(2, 2, 2, 2, 2);
+        ArmRoom five = Arms.slides(2, 2, 2, 2, 2);
         for (int joint = 0; joint < 5; joint++) {
             five.set(joint, joint % 2);
         }
@@ -433,10 +417,10 @@ public final class BranchEdgesTest {
                 CHECK.due(call, five.branch(rank, ArmRoom.HEADING, joint), rank >> (4 - joint) & 1);
             }
         }
-        ArmRoom turns = arm(new int[] {TURN, 0, -1, 1}, new int[] {TURN, 0, -1, 1});
+        ArmRoom turns = Arms.of(new int[] {TURN, 0, -1, 1}, new int[] {TURN, 0, -1, 1});
         ranked("of nine as far", turns, ArmRoom.FAR, 0, -1, -1, -1, 0, 0, 0, 1, 1, 1);
         ranked("of nine as far", turns, ArmRoom.FAR, 1, -1, 0, 1, -1, 0, 1, -1, 0, 1);
-        ArmRoom widest = arm(new int[] {TURN, 0, -32, 32});
+        ArmRoom widest = Arms.of(new int[] {TURN, 0, -32, 32});
         ranked("of 65 as far", widest, ArmRoom.FAR, 0, -32, -31, -30, -29, -28, -27, -26, -25, -24, -23);
     }
 
@@ -444,7 +428,7 @@ public final class BranchEdgesTest {
         CHECK.promise("16: takes a branch as the pose; returns how far it is from the goal");
         int[] far = {50, 51, 49, 52, 48, 53, 47, 54, 46, 55};
         for (int rank = 0; rank <= 9; rank++) {
-            ArmRoom room = slides(101);
+            ArmRoom room = Arms.slides(101);
             room.goal(50400, 3);
             long off = far[rank] * 1000 - 50400;
             CHECK.due("take(" + rank + ", FAR)", room.take(rank, ArmRoom.FAR), off * off + 9);
@@ -453,7 +437,7 @@ public final class BranchEdgesTest {
             CHECK.due("far()", room.far(), off * off + 9);
             CHECK.due("branch(0, WAY, 0)", room.branch(0, ArmRoom.WAY, 0), far[rank]);
         }
-        ArmRoom room = slides(101);
+        ArmRoom room = Arms.slides(101);
         room.set(0, 60);
         room.goal(50400, 3);
         // Within the slack are 41 to 60.
@@ -468,7 +452,7 @@ public final class BranchEdgesTest {
 
     private static void takeOfFive() {
         CHECK.promise("16: with five joints");
-        ArmRoom room = slides(6, 6, 6, 6, 6);
+        ArmRoom room = Arms.slides(6, 6, 6, 6, 6);
         room.slack(0);
         room.goal(24000, 0);
         // One joint has 4, all others 5: first comes the branch with the 4 at joint 0.
@@ -488,7 +472,7 @@ public final class BranchEdgesTest {
 
     private static void takeOfMany() {
         CHECK.promise("15 and 16: IllegalStateException if there are more than 40000 poses, behind the others");
-        ArmRoom room = slides(81, 26, 19);
+        ArmRoom room = Arms.slides(81, 26, 19);
         room.slack(0);
         int[] ranks = {0, 1, 9};
         for (int rank : ranks) {

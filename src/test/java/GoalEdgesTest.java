@@ -32,16 +32,8 @@ public final class GoalEdgesTest {
         CHECK.end("GoalEdgesTest");
     }
 
-    private static ArmRoom arm(int[]... joints) {
-        ArmRoom room = new ArmRoom();
-        for (int[] joint : joints) {
-            room.joint(joint[0], joint[1], joint[2], joint[3]);
-        }
-        return room;
-    }
-
     private static ArmRoom slideAt(int value) {
-        ArmRoom room = arm(new int[] {SLIDE, 0, 0, 100});
+        ArmRoom room = Arms.of(new int[] {SLIDE, 0, 0, 100});
         room.set(0, value);
         return room;
     }
@@ -73,11 +65,11 @@ public final class GoalEdgesTest {
     private static void goalPastInts() {
         CHECK.promise("9: how far, from the longest arm to the farthest goals");
         int[] slide = {SLIDE, 200, 100, 100};
-        ArmRoom room = arm(slide, slide, slide, slide, slide);
+        ArmRoom room = Arms.of(slide, slide, slide, slide, slide);
         CHECK.due("goal(-1000000, 1000000)", room.goal(-1000000, 1000000), 2500000L * 2500000 + 1000000000000L);
         CHECK.due("goal(-1000000, -1000000)", room.goal(-1000000, -1000000), 2500000L * 2500000 + 1000000000000L);
         CHECK.due("goal(1000000, 0)", room.goal(1000000, 0), 500000L * 500000);
-        ArmRoom upright = arm(new int[] {TURN, 0, -16, 16}, slide, slide, slide, slide);
+        ArmRoom upright = Arms.of(new int[] {TURN, 0, -16, 16}, slide, slide, slide, slide);
         upright.set(0, 16);
         CHECK.due("goal(0, -1000000)", upright.goal(0, -1000000), 2200000L * 2200000);
         upright.set(0, -16);
@@ -86,7 +78,7 @@ public final class GoalEdgesTest {
 
     private static void farOfEachSide() {
         CHECK.promise("10: the square of how far x is, and of how far y is, together");
-        ArmRoom room = arm(new int[] {TURN, 7, 8, 8});
+        ArmRoom room = Arms.of(new int[] {TURN, 7, 8, 8});
         int[][] rows = {
             {0, 0, 0}, {1, 0, 1}, {-1, 0, 1}, {0, 1, 1}, {0, -1, 1}, {3, 4, 25}, {-3, -4, 25}, {3, -4, 25}, {-4, 3, 25}
         };
@@ -119,7 +111,7 @@ public final class GoalEdgesTest {
     /** Arms on which a turn and the slides press one another on, a little at a time. */
     private static void manySteps() {
         int[] slide = {SLIDE, 110, 0, 100};
-        ArmRoom room = arm(slide, new int[] {SLIDE, 90, 0, 100}, new int[] {TURN, 190, -32, 32});
+        ArmRoom room = Arms.of(slide, new int[] {SLIDE, 90, 0, 100}, new int[] {TURN, 190, -32, 32});
         room.goal(198000, -38000);
         CHECK.due("steps(199) of 200", room.steps(199), 199);
         room.set(0, 0);
@@ -127,7 +119,7 @@ public final class GoalEdgesTest {
         room.set(2, 0);
         CHECK.due("steps(200) of 200", room.steps(200), 200);
         CHECK.due("steps(200) of none", room.steps(200), 0);
-        ArmRoom more = arm(new int[] {SLIDE, 70, 0, 100}, new int[] {TURN, 170, -32, 32},
+        ArmRoom more = Arms.of(new int[] {SLIDE, 70, 0, 100}, new int[] {TURN, 170, -32, 32},
                 new int[] {SLIDE, 150, 0, 100});
         more.goal(-277000, -104000);
         CHECK.due("steps(200) of 201", more.steps(200), 200);
@@ -143,7 +135,7 @@ public final class GoalEdgesTest {
         there.goal(45000, 0);
         CHECK.due("steps(200) at the goal", there.steps(200), 0);
         CHECK.due("value(0) at the goal", there.value(0), 45);
-        ArmRoom one = arm(new int[] {SLIDE, 5, 7, 7}, new int[] {TURN, 5, -3, -3});
+        ArmRoom one = Arms.of(new int[] {SLIDE, 5, 7, 7}, new int[] {TURN, 5, -3, -3});
         one.goal(500000, 0);
         CHECK.due("steps(200) with one pose", one.steps(200), 0);
         CHECK.due("value(0) with one pose", one.value(0), 7);
@@ -176,7 +168,7 @@ public final class GoalEdgesTest {
         CHECK.due("steps(200) to 100", room.steps(200), 1);
         CHECK.due("value(0)", room.value(0), 100);
         CHECK.due("steps(200) at 100", room.steps(200), 0);
-        ArmRoom turn = arm(new int[] {TURN, 100, -32, 32});
+        ArmRoom turn = Arms.of(new int[] {TURN, 100, -32, 32});
         turn.set(0, 25);
         turn.goal(-100000, 0);
         CHECK.due("steps(200) of a turn to 32", turn.steps(200), 1);
@@ -184,7 +176,7 @@ public final class GoalEdgesTest {
         turn.set(0, -25);
         CHECK.due("steps(200) of a turn to -32", turn.steps(200), 1);
         CHECK.due("value(0) of a turn at -32", turn.value(0), -32);
-        ArmRoom narrow = arm(new int[] {TURN, 100, -3, 5});
+        ArmRoom narrow = Arms.of(new int[] {TURN, 100, -3, 5});
         narrow.goal(0, 100000);
         CHECK.due("steps(200) to the high limit", narrow.steps(200), 1);
         CHECK.due("value(0) at the high limit", narrow.value(0), 5);
@@ -212,13 +204,13 @@ public final class GoalEdgesTest {
 
     private static void stepsLeastFar() {
         CHECK.promise("11: the pose that is least far from the goal of these");
-        ArmRoom last = arm(new int[] {SLIDE, 0, 0, 6}, new int[] {SLIDE, 0, 0, 7}, new int[] {SLIDE, 0, 0, 8});
+        ArmRoom last = Arms.of(new int[] {SLIDE, 0, 0, 6}, new int[] {SLIDE, 0, 0, 7}, new int[] {SLIDE, 0, 0, 8});
         last.goal(20000, 0);
         CHECK.due("steps(1)", last.steps(1), 1);
         CHECK.due("value(0)", last.value(0), 0);
         CHECK.due("value(1)", last.value(1), 0);
         CHECK.due("value(2)", last.value(2), 8);
-        ArmRoom more = arm(new int[] {TURN, 100, -32, 32});
+        ArmRoom more = Arms.of(new int[] {TURN, 100, -32, 32});
         // Less by 8 is less far too, more by 8 least far.
         more.goal(-100000, 1000);
         CHECK.due("steps(1) of a turn", more.steps(1), 1);
@@ -245,7 +237,7 @@ public final class GoalEdgesTest {
 
     private static void stepsEnd() {
         CHECK.promise("11: with a stride of 1 the steps end");
-        ArmRoom room = arm(new int[] {TURN, 100, -32, 32}, new int[] {SLIDE, 10, 0, 100},
+        ArmRoom room = Arms.of(new int[] {TURN, 100, -32, 32}, new int[] {SLIDE, 10, 0, 100},
                 new int[] {SLIDE, 180, 0, 100});
         room.goal(3000, 1000);
         // At 5 neither 4 nor 6 is less far, but 3 is: by a stride of 2, in the next call.
@@ -259,7 +251,7 @@ public final class GoalEdgesTest {
     private static void stepsAmongEquals() {
         CHECK.promise("11: of several the lowest joint, less ahead of more");
         int[] slide = {SLIDE, 0, 0, 100};
-        ArmRoom alike = arm(slide, slide, slide, slide, slide);
+        ArmRoom alike = Arms.of(slide, slide, slide, slide, slide);
         alike.goal(100000, 0);
         CHECK.due("steps(1)", alike.steps(1), 1);
         CHECK.due("value(0) of five alike", alike.value(0), 8);
@@ -268,11 +260,11 @@ public final class GoalEdgesTest {
         CHECK.due("steps(1), 0 being at its limit", alike.steps(1), 1);
         CHECK.due("value(1) of five alike", alike.value(1), 8);
         CHECK.due("value(4) of five alike", alike.value(4), 0);
-        ArmRoom either = arm(new int[] {TURN, 100, -32, 32});
+        ArmRoom either = Arms.of(new int[] {TURN, 100, -32, 32});
         either.goal(-100000, 0);
         CHECK.due("steps(1) of a turn", either.steps(1), 1);
         CHECK.due("value(0), less ahead of more", either.value(0), -8);
-        ArmRoom across = arm(slide, new int[] {TURN, 0, 32, 32}, slide);
+        ArmRoom across = Arms.of(slide, new int[] {TURN, 0, 32, 32}, slide);
         across.set(2, 50);
         across.goal(0, 0);
         CHECK.due("steps(1) of slides against one another", across.steps(1), 1);
@@ -283,7 +275,7 @@ public final class GoalEdgesTest {
     private static void stepsOfFive() {
         CHECK.promise("11: each joint is looked at, the last of five too");
         int[] fixed = {TURN, 10, 0, 0};
-        ArmRoom room = arm(fixed, fixed, fixed, fixed, new int[] {SLIDE, 0, 0, 100});
+        ArmRoom room = Arms.of(fixed, fixed, fixed, fixed, new int[] {SLIDE, 0, 0, 100});
         room.goal(60000, 0);
         // By 8 to 16, where 24 is as far; then by 4.
         CHECK.due("steps(200)", room.steps(200), 3);
@@ -313,7 +305,7 @@ public final class GoalEdgesTest {
         CHECK.due("hindrance() of a slide at 0, below it", slide.hindrance(), 0);
         slide.set(0, 1);
         CHECK.due("hindrance() of a slide at 1", slide.hindrance(), -1);
-        ArmRoom turn = arm(new int[] {TURN, 100, -32, 32});
+        ArmRoom turn = Arms.of(new int[] {TURN, 100, -32, 32});
         turn.goal(-99500, -9800);
         turn.set(0, 32);
         CHECK.due("hindrance() of a turn at 32", turn.hindrance(), 0);
@@ -327,7 +319,7 @@ public final class GoalEdgesTest {
 
     private static void hindranceWithin() {
         CHECK.promise("12: beyond its limits, so not one below them");
-        ArmRoom room = arm(new int[] {SLIDE, 0, 10, 20});
+        ArmRoom room = Arms.of(new int[] {SLIDE, 0, 10, 20});
         room.goal(900000, 0);
         CHECK.due("hindrance() at the low limit", room.hindrance(), -1);
         room.set(0, 19);
@@ -344,7 +336,7 @@ public final class GoalEdgesTest {
 
     private static void hindranceOfOneValue() {
         CHECK.promise("12: more by 1, or less by 1, where the limits are one");
-        ArmRoom room = arm(new int[] {SLIDE, 0, 10, 10});
+        ArmRoom room = Arms.of(new int[] {SLIDE, 0, 10, 10});
         room.goal(900000, 0);
         CHECK.due("hindrance() for more", room.hindrance(), 0);
         room.goal(-900000, 0);
@@ -357,7 +349,7 @@ public final class GoalEdgesTest {
 
     private static void hindranceByOne() {
         CHECK.promise("12: by 1");
-        ArmRoom room = arm(new int[] {SLIDE, 0, 10, 20});
+        ArmRoom room = Arms.of(new int[] {SLIDE, 0, 10, 20});
         room.goal(9000, 0);
         CHECK.due("hindrance(), 2 being as far as none", room.hindrance(), 0);
         room.set(0, 20);
@@ -369,7 +361,7 @@ public final class GoalEdgesTest {
 
     private static void hindranceLessFar() {
         CHECK.promise("12: it would be less far");
-        ArmRoom room = arm(new int[] {SLIDE, 0, 10, 20});
+        ArmRoom room = Arms.of(new int[] {SLIDE, 0, 10, 20});
         room.goal(9500, 0);
         CHECK.due("hindrance() with as far by less", room.hindrance(), -1);
         room.goal(9499, 0);
@@ -379,7 +371,7 @@ public final class GoalEdgesTest {
         CHECK.due("hindrance() with as far by more", room.hindrance(), -1);
         room.goal(20501, 0);
         CHECK.due("hindrance() with less far by more", room.hindrance(), 0);
-        ArmRoom still = arm(new int[] {TURN, 0, 5, 5});
+        ArmRoom still = Arms.of(new int[] {TURN, 0, 5, 5});
         still.goal(900000, 0);
         CHECK.due("hindrance() of a turn that moves nothing", still.hindrance(), -1);
     }
@@ -387,7 +379,7 @@ public final class GoalEdgesTest {
     private static void hindranceLowest() {
         CHECK.promise("12: the lowest one of those");
         int[] slide = {SLIDE, 0, 0, 10};
-        ArmRoom room = arm(slide, slide, slide, slide, slide);
+        ArmRoom room = Arms.of(slide, slide, slide, slide, slide);
         room.goal(900000, 0);
         CHECK.due("hindrance() of none", room.hindrance(), -1);
         for (int joint = 4; joint >= 0; joint--) {
@@ -398,7 +390,7 @@ public final class GoalEdgesTest {
             room.set(joint, 9);
             CHECK.due("hindrance() of all behind " + joint, room.hindrance(), joint < 4 ? joint + 1 : -1);
         }
-        ArmRoom both = arm(slide, new int[] {TURN, 0, 32, 32}, slide);
+        ArmRoom both = Arms.of(slide, new int[] {TURN, 0, 32, 32}, slide);
         both.goal(-900000, 0);
         both.set(2, 10);
         CHECK.due("hindrance(), less of 0 ahead of more of 2", both.hindrance(), 0);

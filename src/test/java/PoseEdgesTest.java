@@ -36,31 +36,23 @@ public final class PoseEdgesTest {
         CHECK.end("PoseEdgesTest");
     }
 
-    private static ArmRoom arm(int[]... joints) {
-        ArmRoom room = new ArmRoom();
-        for (int[] joint : joints) {
-            room.joint(joint[0], joint[1], joint[2], joint[3]);
-        }
-        return room;
-    }
-
     private static void newObject() {
         CHECK.promise("1: an arm without joints, the goal at 0 and 0, the slack 10000");
         CHECK.refused("value(0)", INDEX, () -> new ArmRoom().value(0));
         CHECK.due("joint", new ArmRoom().joint(TURN, 1, 0, 0), 0);
         CHECK.due("far()", new ArmRoom().far(), 0);
-        CHECK.due("far() of 3 along x", arm(new int[] {TURN, 3, 0, 0}).far(), 9000000);
-        CHECK.due("far() of 3 along y", arm(new int[] {TURN, 3, 16, 16}).far(), 9000000);
+        CHECK.due("far() of 3 along x", Arms.of(new int[] {TURN, 3, 0, 0}).far(), 9000000);
+        CHECK.due("far() of 3 along y", Arms.of(new int[] {TURN, 3, 16, 16}).far(), 9000000);
         CHECK.due("slack(10000)", new ArmRoom().slack(10000), 10000);
-        CHECK.due("branches() of 10 along x", arm(new int[] {TURN, 10, 0, 0}).branches(), 1);
-        CHECK.due("branches() of 11 along x", arm(new int[] {TURN, 11, 0, 0}).branches(), 0);
-        CHECK.due("branches() of 10 along y", arm(new int[] {TURN, 10, -16, -16}).branches(), 1);
-        CHECK.due("branches() of 11 along y", arm(new int[] {TURN, 11, -16, -16}).branches(), 0);
+        CHECK.due("branches() of 10 along x", Arms.of(new int[] {TURN, 10, 0, 0}).branches(), 1);
+        CHECK.due("branches() of 11 along x", Arms.of(new int[] {TURN, 11, 0, 0}).branches(), 0);
+        CHECK.due("branches() of 10 along y", Arms.of(new int[] {TURN, 10, -16, -16}).branches(), 1);
+        CHECK.due("branches() of 11 along y", Arms.of(new int[] {TURN, 11, -16, -16}).branches(), 0);
     }
 
     private static void calls() {
         CHECK.promise("an object is used for at most 512 calls");
-        ArmRoom room = arm(new int[] {SLIDE, 0, 0, 100});
+        ArmRoom room = Arms.of(new int[] {SLIDE, 0, 0, 100});
         for (int call = 2; call <= 511; call++) {
             CHECK.due("call " + call, room.set(0, call % 101), call == 2 ? 0 : (call - 1) % 101);
         }
@@ -142,13 +134,13 @@ public final class PoseEdgesTest {
             {1, 1, 1}, {1, 32, 1}, {-1, -1, -1}, {-32, -1, -1}, {32, 32, 32}, {-32, -32, -32}
         };
         for (int[] row : turns) {
-            ArmRoom room = arm(new int[] {TURN, 5, row[0], row[1]});
+            ArmRoom room = Arms.of(new int[] {TURN, 5, row[0], row[1]});
             CHECK.due("value(0) of a turn from " + row[0] + " to " + row[1], room.value(0), row[2]);
             CHECK.due("tip(2) of it", room.tip(2), Math.floorMod(row[2], 64));
         }
         int[][] slides = {{0, 0, 0}, {0, 1, 0}, {0, 100, 0}, {1, 1, 1}, {1, 100, 1}, {100, 100, 100}};
         for (int[] row : slides) {
-            ArmRoom room = arm(new int[] {SLIDE, 5, row[0], row[1]});
+            ArmRoom room = Arms.of(new int[] {SLIDE, 5, row[0], row[1]});
             CHECK.due("value(0) of a slide from " + row[0] + " to " + row[1], room.value(0), row[2]);
             CHECK.due("tip(0) of it", room.tip(0), 5000 + 1000 * row[2]);
         }
@@ -174,7 +166,7 @@ public final class PoseEdgesTest {
 
     private static void set() {
         CHECK.promise("3: value, within its limits; returns the one before");
-        ArmRoom room = arm(new int[] {TURN, 10, -3, 7}, new int[] {SLIDE, 10, 20, 30});
+        ArmRoom room = Arms.of(new int[] {TURN, 10, -3, 7}, new int[] {SLIDE, 10, 20, 30});
         CHECK.refused("set(0, -4)", ARGUMENT, () -> room.set(0, -4));
         CHECK.due("set(0, -3)", room.set(0, -3), 0);
         CHECK.refused("set(0, 8)", ARGUMENT, () -> room.set(0, 8));
@@ -194,7 +186,8 @@ public final class PoseEdgesTest {
 
     private static void setOneValue() {
         CHECK.promise("3: limits that leave one value, and the widest");
-        ArmRoom room = arm(new int[] {TURN, 10, 5, 5}, new int[] {TURN, 10, -32, 32}, new int[] {SLIDE, 10, 0, 100});
+        int[] widest = {TURN, 10, -32, 32};
+        ArmRoom room = Arms.of(new int[] {TURN, 10, 5, 5}, widest, new int[] {SLIDE, 10, 0, 100});
         CHECK.due("set(0, 5)", room.set(0, 5), 5);
         CHECK.refused("set(0, 4)", ARGUMENT, () -> room.set(0, 4));
         CHECK.refused("set(0, 6)", ARGUMENT, () -> room.set(0, 6));
@@ -247,7 +240,7 @@ public final class PoseEdgesTest {
 
     private static void told() {
         CHECK.promise("5 and 6: what, 0 x, 1 y, 2 the heading");
-        ArmRoom[] rooms = {new ArmRoom(), arm(new int[] {TURN, 10, 8, 8})};
+        ArmRoom[] rooms = {new ArmRoom(), Arms.of(new int[] {TURN, 10, 8, 8})};
         int[] wrong = {-1, 3, LEAST, MOST};
         for (ArmRoom room : rooms) {
             for (int what : wrong) {
@@ -305,7 +298,7 @@ public final class PoseEdgesTest {
 
     private static void movesWhat() {
         CHECK.promise("7: what, 0 for x, 1 for y");
-        ArmRoom room = arm(new int[] {SLIDE, 1, 0, 9}, new int[] {TURN, 0, 16, 16}, new int[] {SLIDE, 1, 0, 9});
+        ArmRoom room = Arms.of(new int[] {SLIDE, 1, 0, 9}, new int[] {TURN, 0, 16, 16}, new int[] {SLIDE, 1, 0, 9});
         int[] wrong = {-1, 2, LEAST, MOST};
         for (int what : wrong) {
             CHECK.refused("moves(0, " + what + ")", ARGUMENT, () -> room.moves(0, what));
@@ -319,18 +312,18 @@ public final class PoseEdgesTest {
 
     private static void movesWhateverTheLimits() {
         CHECK.promise("7: as the value is more by 1, whatever its limits are");
-        ArmRoom room = arm(new int[] {TURN, 10, -32, 32});
+        ArmRoom room = Arms.of(new int[] {TURN, 10, -32, 32});
         room.set(0, 32);
         CHECK.due("moves(0, 0) of a turn at 32", room.moves(0, 0), 10 * 5);
         CHECK.due("moves(0, 1) of a turn at 32", room.moves(0, 1), -10 * 98);
         CHECK.due("value(0)", room.value(0), 32);
-        ArmRoom one = arm(new int[] {TURN, 10, 0, 0});
+        ArmRoom one = Arms.of(new int[] {TURN, 10, 0, 0});
         CHECK.due("moves(0, 0) of a turn with one value", one.moves(0, 0), -10 * 5);
         CHECK.due("moves(0, 1) of a turn with one value", one.moves(0, 1), 10 * 98);
-        ArmRoom slide = arm(new int[] {SLIDE, 200, 100, 100});
+        ArmRoom slide = Arms.of(new int[] {SLIDE, 200, 100, 100});
         CHECK.due("moves(0, 0) of a slide at 100", slide.moves(0, 0), 1000);
         CHECK.due("tip(0)", slide.tip(0), 300000);
-        ArmRoom none = arm(new int[] {TURN, 0, -32, 32});
+        ArmRoom none = Arms.of(new int[] {TURN, 0, -32, 32});
         CHECK.due("moves(0, 0) of a turn without length", none.moves(0, 0), 0);
         CHECK.due("moves(0, 1) of a turn without length", none.moves(0, 1), 0);
         CHECK.due("tip(2)", none.tip(2), 0);
@@ -359,9 +352,9 @@ public final class PoseEdgesTest {
     private static void freedomOfFew() {
         CHECK.promise("8: 0 with fewer than two joints");
         CHECK.due("freedom() without joints", new ArmRoom().freedom(), 0);
-        CHECK.due("freedom() with a turn", arm(new int[] {TURN, 200, -32, 32}).freedom(), 0);
-        CHECK.due("freedom() with a slide", arm(new int[] {SLIDE, 200, 0, 100}).freedom(), 0);
-        ArmRoom two = arm(new int[] {TURN, 0, 8, 8}, new int[] {SLIDE, 100, 0, 100});
+        CHECK.due("freedom() with a turn", Arms.of(new int[] {TURN, 200, -32, 32}).freedom(), 0);
+        CHECK.due("freedom() with a slide", Arms.of(new int[] {SLIDE, 200, 0, 100}).freedom(), 0);
+        ArmRoom two = Arms.of(new int[] {TURN, 0, 8, 8}, new int[] {SLIDE, 100, 0, 100});
         // The turn moves from (707, 707) to (634, 773), a hundred times; the slide by (707, 707).
         CHECK.due("freedom() with two", two.freedom(), 100L * (73 * 707 + 66 * 707));
     }
@@ -371,18 +364,18 @@ public final class PoseEdgesTest {
         int[] slide = {SLIDE, 0, 0, 0};
         int[] turn = {TURN, 200, 0, 0};
         int[] upright = {TURN, 200, 16, 16};
-        CHECK.due("freedom() by 0 and 1", arm(turn, upright, slide, slide, slide).freedom(), 9629L * 200 * 200);
-        CHECK.due("freedom() by 0 and 4", arm(turn, slide, slide, slide, upright).freedom(), 9629L * 200 * 200);
-        CHECK.due("freedom() by 3 and 4", arm(slide, slide, slide, upright, slide).freedom(), 98L * 200 * 1000);
-        CHECK.due("freedom() of five alike", arm(slide, slide, slide, slide, slide).freedom(), 0);
+        CHECK.due("freedom() by 0 and 1", Arms.of(turn, upright, slide, slide, slide).freedom(), 9629L * 200 * 200);
+        CHECK.due("freedom() by 0 and 4", Arms.of(turn, slide, slide, slide, upright).freedom(), 9629L * 200 * 200);
+        CHECK.due("freedom() by 3 and 4", Arms.of(slide, slide, slide, upright, slide).freedom(), 98L * 200 * 1000);
+        CHECK.due("freedom() of five alike", Arms.of(slide, slide, slide, slide, slide).freedom(), 0);
     }
 
     private static void freedomByMore() {
         CHECK.promise("8: by the moves as the values are more by 1");
-        ArmRoom room = arm(new int[] {TURN, 100, 0, 0}, new int[] {TURN, 100, 8, 8});
+        ArmRoom room = Arms.of(new int[] {TURN, 100, 0, 0}, new int[] {TURN, 100, 8, 8});
         // Less by 1 would come to 6833 a piece.
         CHECK.due("freedom()", room.freedom(), 6824L * 100 * 100);
-        ArmRoom back = arm(new int[] {TURN, 100, 0, 0}, new int[] {TURN, 100, -8, -8});
+        ArmRoom back = Arms.of(new int[] {TURN, 100, 0, 0}, new int[] {TURN, 100, -8, -8});
         CHECK.due("freedom() the other way round", back.freedom(), 6833L * 100 * 100);
     }
 
@@ -390,10 +383,10 @@ public final class PoseEdgesTest {
         CHECK.promise("8: past the ints");
         int[] slide = {SLIDE, 200, 100, 100};
         // The moves: -53000 and 75900 by the first turn, -4000 and 78400 by the second.
-        ArmRoom first = arm(new int[] {TURN, 200, 16, 16}, slide, new int[] {TURN, 200, -16, -16}, slide, slide);
+        ArmRoom first = Arms.of(new int[] {TURN, 200, 16, 16}, slide, new int[] {TURN, 200, -16, -16}, slide, slide);
         CHECK.due("freedom(), x times y past them", first.freedom(), 53000L * 78400 - 75900L * 4000);
         // The moves: -80900 and 45000 by the first turn, -78400 and -4000 by the second.
-        ArmRoom second = arm(new int[] {TURN, 200, 0, 0}, slide, new int[] {TURN, 200, 16, 16}, slide, slide);
+        ArmRoom second = Arms.of(new int[] {TURN, 200, 0, 0}, slide, new int[] {TURN, 200, 16, 16}, slide, slide);
         CHECK.due("freedom(), y times x past them", second.freedom(), 80900L * 4000 + 45000L * 78400);
     }
 }
